@@ -20,6 +20,7 @@ public final class DaysTest {
         waterGoesFromWhatWasBefore();
         waterGoesUpToo();
         outAndBalance();
+        thirtyCells();
         CHECK.finish();
     }
 
@@ -277,5 +278,26 @@ public final class DaysTest {
         closed.run(9);
         CHECK.same("nothing out of closed ground", closed.out(), 0);
         CHECK.same("closed ground balances", closed.balance(), true);
+    }
+
+    private static void thirtyCells() {
+        SettleLayers x = new SettleLayers();
+        for (int i = 0; i < 3; i++) {
+            x.layer(10, 300, 1000, 1000, 0);
+        }
+        x.drains(true, true, 200);
+        for (int i = 0; i < 12; i++) {
+            x.load(0, 200_000);
+        }
+        x.run(60);
+        CHECK.same("all that came", x.count(5), 2_400_000);
+        CHECK.same("the greatest loads balance", x.balance(), true);
+        long carried = 0;
+        for (int cell = 0; cell < 30; cell++) {
+            carried += x.told(cell, 1);
+        }
+        CHECK.same("a micrometre for each pascal", x.sunk(-1), carried);
+        CHECK.same("the end", x.end(), 72_000_000);
+        CHECK.same("nearly all", x.share(), 999);
     }
 }

@@ -15,6 +15,7 @@ public final class FutureTest {
         untilGoesBeyondDay400();
         untilLeavesAllAsItIs();
         surchargeNumbers();
+        surchargeGoesTo20Steps();
         surchargeIsTheLeast();
         surchargeComesWithTheDaysLoads();
         surchargeUsesUnits();
@@ -203,6 +204,17 @@ public final class FutureTest {
         CHECK.same("3 more", x.surcharge(1, 100), 3);
         CHECK.same("two times 2", x.surcharge(2, 100), 4);
         CHECK.same("one time 100,000", x.surcharge(100_000, 100), 100_000);
+    }
+
+    private static void surchargeGoesTo20Steps() {
+        // 20 pascals stay with a leak of 48, 21 with one of 47: less than a whole one would go.
+        SettleLayers x = ground(1, 48, 10, 10, 0);
+        x.load(0, 1000);
+        CHECK.same("20 steps", x.surcharge(1, 100), 20);
+        SettleLayers tighter = ground(1, 47, 10, 10, 0);
+        tighter.load(0, 1000);
+        CHECK.same("20 steps are too little", tighter.surcharge(1, 100), BAD);
+        CHECK.same("greater steps are not", tighter.surcharge(2, 100), 22);
     }
 
     private static void surchargeIsTheLeast() {

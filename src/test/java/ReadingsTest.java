@@ -56,6 +56,10 @@ public final class ReadingsTest {
         CHECK.same("reading 21", x.read(21, 21), BAD);
         CHECK.same("readings", x.count(4), 20);
         CHECK.same("by the first and the last of them", x.foretold(2), 20 + 100);
+        CHECK.same("none of them of a day that has begun", x.off(0), 0);
+        x.layer(1, 1, 1, 1, 1);
+        x.run(60);
+        CHECK.same("by more than 7 from 0", x.off(7), 13);
     }
 
     private static void foretoldByLastThree() {
