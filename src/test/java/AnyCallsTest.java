@@ -12,10 +12,10 @@ public final class AnyCallsTest {
     };
 
     public static void main(String[] args) {
-        for (int seed = 0; seed < 60; seed++) {
+        for (int seed = 0; seed < 200; seed++) {
             Random random = new Random(seed);
             SettleLayers x = new SettleLayers();
-            for (int i = 0; i < 512; i++) {
+            for (int i = 0; i < 511; i++) {
                 call(x, random);
             }
             CHECK.same("balance after run " + seed, x.balance(), true);

@@ -5,8 +5,9 @@ import java.util.Random;
 /** Runs of calls on the class and on PlainGround, which must answer alike (promises 2 to 13, 16 and 17). */
 public final class PlainGroundTest {
     private static final Check CHECK = new Check("PlainGroundTest");
-    private static final int RUNS = 150;
-    private static final int CALLS = 80;
+    private static final int RUNS = 600;
+    // With the questions after each of them, and those at the end, an object stays below its 512 calls.
+    private static final int CALLS = 60;
 
     private final Random random;
     private final SettleLayers x = new SettleLayers();
@@ -33,8 +34,9 @@ public final class PlainGroundTest {
         }
         for (int i = 0; i < CALLS; i++) {
             call();
-            compare();
+            compareSome();
         }
+        compareAll();
     }
 
     private int upTo(int most) {
@@ -82,7 +84,7 @@ public final class PlainGroundTest {
     private void read() {
         int last = readings.isEmpty() ? -1 : readings.get(readings.size() - 1)[0];
         int day = last + 1 + upTo(8);
-        int v = (int) x.sunk(-1) + upTo(10);
+        int v = (int) (plain.units(-1) / 1000) + upTo(10);
         boolean good = day <= 400 && readings.size() < 20;
         if (good) {
             readings.add(new int[] {day, v});
@@ -110,21 +112,38 @@ public final class PlainGroundTest {
         CHECK.same(name("run"), x.run(days), good ? plain.day : -1);
     }
 
-    private void compare() {
+    private void compareSome() {
+        compareSunk(upTo(plain.layers) - 1);
+        compareTold(upTo(plain.cells.size() - 1), upTo(2));
+        CHECK.same(name("out"), x.out(), plain.out);
+        CHECK.same(name("share"), x.share(), plain.share());
+        compareOff(upTo(8));
+    }
+
+    private void compareAll() {
         for (int layer = -1; layer < plain.layers; layer++) {
-            CHECK.same(name("sunk"), x.sunk(layer), plain.units(layer) / 1000);
+            compareSunk(layer);
         }
         for (int cell = 0; cell < plain.cells.size(); cell++) {
             for (int what = 0; what <= 2; what++) {
-                CHECK.same(name("told"), x.told(cell, what), plain.told(cell, what));
+                compareTold(cell, what);
             }
         }
-        CHECK.same(name("out"), x.out(), plain.out);
         CHECK.same(name("balance"), x.balance(), true);
         CHECK.same(name("end"), x.end(), plain.end() / 1000);
-        CHECK.same(name("share"), x.share(), plain.share());
         CHECK.same(name("come"), x.count(5), plain.come);
-        long limit = upTo(8);
+        compareOff(0);
+    }
+
+    private void compareSunk(int layer) {
+        CHECK.same(name("sunk"), x.sunk(layer), plain.units(layer) / 1000);
+    }
+
+    private void compareTold(int cell, int what) {
+        CHECK.same(name("told"), x.told(cell, what), plain.told(cell, what));
+    }
+
+    private void compareOff(long limit) {
         int off = 0;
         for (int[] reading : readings) {
             off += plain.isOff(reading[0], reading[1], limit) ? 1 : 0;
