@@ -41,8 +41,9 @@ final class Made {
     }
 
     static SettleLayers runTo(SettleLayers x, int day) {
-        while (x.count(3) < day && x.run(Math.min(60, day - x.count(3))) > 0) {
-            continue;
+        int now = x.count(3);
+        while (now >= 0 && now < day) {
+            now = x.run(Math.min(60, day - now));
         }
         return x;
     }

@@ -6,6 +6,10 @@
 public final class SurchargeTest {
     private static final Check CHECK = new Check("SurchargeTest");
     private static final int BAD = SettleLayers.BAD;
+    // Leaks that so many pascals stay by, whatever the load, as less than a whole one would go.
+    private static final int STAY_3 = 300;
+    private static final int STAY_20 = 48;
+    private static final int STAY_21 = 47;
 
     public static void main(String[] args) {
         theLeast();
@@ -56,9 +60,8 @@ public final class SurchargeTest {
         }
     }
 
-    /** So many pascals stay in the water in the long run, whatever the load, as less than a whole one would go. */
-    private static SettleLayers staying(int pascals) {
-        SettleLayers x = Made.ground(1, pascals == 3 ? 300 : pascals == 20 ? 48 : 47, 10, 10, 0);
+    private static SettleLayers loaded(int leak) {
+        SettleLayers x = Made.ground(1, leak, 10, 10, 0);
         x.load(0, 1000);
         return x;
     }
@@ -69,31 +72,31 @@ public final class SurchargeTest {
         SettleLayers stiff = Made.ground(1, 0, 0, 0, 0);
         stiff.load(0, 1000);
         CHECK.same("ground that doesn't sink", stiff.surcharge(1, 1), 0);
-        CHECK.holds("the end is never there without more", staying(3).surcharge(1, 100) > 0);
+        CHECK.holds("the end is never there without more", loaded(STAY_3).surcharge(1, 100) > 0);
     }
 
     private static void oneStep() {
-        CHECK.same("a step of 3", staying(3).surcharge(3, 100), 3);
-        CHECK.same("a step of 4", staying(3).surcharge(4, 100), 4);
-        CHECK.same("a step of 100,000", staying(3).surcharge(100_000, 100), 100_000);
+        CHECK.same("a step of 3", loaded(STAY_3).surcharge(3, 100), 3);
+        CHECK.same("a step of 4", loaded(STAY_3).surcharge(4, 100), 4);
+        CHECK.same("a step of 100,000", loaded(STAY_3).surcharge(100_000, 100), 100_000);
     }
 
     private static void twentySteps() {
-        CHECK.same("20 steps of 1", staying(20).surcharge(1, 100), 20);
-        CHECK.same("2 steps of 10", staying(20).surcharge(10, 100), 20);
-        CHECK.same("3 steps of 9", staying(20).surcharge(9, 100), 27);
+        CHECK.same("20 steps of 1", loaded(STAY_20).surcharge(1, 100), 20);
+        CHECK.same("2 steps of 10", loaded(STAY_20).surcharge(10, 100), 20);
+        CHECK.same("3 steps of 9", loaded(STAY_20).surcharge(9, 100), 27);
     }
 
     private static void twentyStepsAreTooLittle() {
-        new Twins(CHECK, () -> staying(21)).refuse("surcharge(1, 100)", x -> x.surcharge(1, 100));
-        CHECK.same("11 steps of 2 are not", staying(21).surcharge(2, 100), 22);
+        new Twins(CHECK, () -> loaded(STAY_21)).refuse("surcharge(1, 100)", x -> x.surcharge(1, 100));
+        CHECK.same("11 steps of 2 are not", loaded(STAY_21).surcharge(2, 100), 22);
         SettleLayers closed = Made.ground(1, 0, 10, 10, 0);
         closed.load(0, 1);
         CHECK.same("no water goes", closed.surcharge(100_000, 100), BAD);
     }
 
     private static void stepOneTo100000() {
-        CHECK.same("step 1", staying(3).surcharge(1, 100), 3);
+        CHECK.same("step 1", loaded(STAY_3).surcharge(1, 100), 3);
         CHECK.same("step 100,000", Made.onDay(0).surcharge(100_000, 1), 0);
         for (int step : new int[] {0, -1, 100_001, Integer.MIN_VALUE, Integer.MAX_VALUE}) {
             new Twins(CHECK, Made::busy).refuse("surcharge(" + step + ", 5)", x -> x.surcharge(step, 5));
@@ -108,8 +111,8 @@ public final class SurchargeTest {
     }
 
     private static void daysOneTo100() {
-        CHECK.same("1 day", staying(3).surcharge(1, 1), 3);
-        CHECK.same("100 days", staying(3).surcharge(1, 100), 3);
+        CHECK.same("1 day", loaded(STAY_3).surcharge(1, 1), 3);
+        CHECK.same("100 days", loaded(STAY_3).surcharge(1, 100), 3);
         for (int days : new int[] {0, -1, 101, Integer.MIN_VALUE, Integer.MAX_VALUE}) {
             new Twins(CHECK, Made::busy).refuse("surcharge(5, " + days + ")", x -> x.surcharge(5, days));
             CHECK.same("days " + days + ", the end is 0", Made.onDay(0).surcharge(5, days), BAD);
@@ -158,13 +161,13 @@ public final class SurchargeTest {
     private static void inSoManyDays() {
         SettleLayers x = Made.ground(10, 100, 1000, 1000, 0);
         x.load(0, 10_000);
-        int last = Integer.MAX_VALUE;
-        for (int days : new int[] {5, 10, 20, 40, 100}) {
+        CHECK.same("20 steps are too little in 4 days", x.surcharge(1000, 4), BAD);
+        int last = 20_001;
+        for (int days : new int[] {5, 8, 10, 20, 40, 100}) {
             int more = x.surcharge(1000, days);
-            CHECK.holds("the more days the less, " + days, more > 0 && more < last || more == 1000 && last == 1000);
+            CHECK.holds("the more days the less: " + more + " for " + days, more > 0 && more < last);
             last = more;
         }
-        CHECK.same("not in a day", x.surcharge(1000, 1), BAD);
     }
 
     private static void loadsThatComeMeanwhile() {
@@ -186,7 +189,7 @@ public final class SurchargeTest {
     }
 
     private static void drainsAsTheyAre() {
-        SettleLayers x = staying(3);
+        SettleLayers x = loaded(STAY_3);
         x.drains(false, false, 0);
         CHECK.same("closed", x.surcharge(100, 100), BAD);
         x.drains(false, false, 200);
