@@ -7,6 +7,7 @@ import java.nio.file.Files;
 import java.nio.file.Path;
 import java.util.Set;
 import java.util.TreeSet;
+import java.util.regex.Matcher;
 import java.util.regex.Pattern;
 
 /** The public face of the document, and the rules of LANGUAGE.md that a look at the class or its text can tell. */
@@ -26,6 +27,7 @@ public final class FaceTest {
         methods();
         constructorsAndConstants();
         classesInside();
+        fields();
         text();
         CHECK.finish();
     }
@@ -87,12 +89,57 @@ public final class FaceTest {
         }
     }
 
+    /** Rules 5 and 11: static fields are constants of plain kinds, a class has at most some twenty other fields. */
+    private static void fields() {
+        fieldsOf(SettleLayers.class);
+        for (Class<?> c : SettleLayers.class.getDeclaredClasses()) {
+            fieldsOf(c);
+        }
+    }
+
+    private static void fieldsOf(Class<?> c) {
+        int ofObjects = 0;
+        for (Field f : c.getDeclaredFields()) {
+            if (Modifier.isStatic(f.getModifiers())) {
+                boolean plain = f.getType() == int.class || f.getType() == long.class;
+                CHECK.holds(f.getName() + " is a constant", plain && Modifier.isFinal(f.getModifiers()));
+            } else {
+                ofObjects++;
+            }
+        }
+        CHECK.holds(c.getName() + " has at most twenty fields", ofObjects <= 20);
+    }
+
     private static void text() throws IOException {
         String text = Files.readString(Path.of("src/main/java/SettleLayers.java"));
         String code = text.replaceAll("(?s)/\\*.*?\\*/", "").replaceAll("//[^\n]*", "");
+        refusedWords(code);
+        shortMethods(code);
+        nothingMadeLater(code);
+    }
+
+    private static void refusedWords(String code) {
         for (String word : REFUSED) {
             String edge = Character.isLetter(word.charAt(0)) && !word.equals("Exact") ? "\\b" : "";
             CHECK.holds("no " + word, !Pattern.compile(edge + Pattern.quote(word) + edge).matcher(code).find());
         }
+    }
+
+    /** Rule 11: from a method's first line to the brace that stands as far in as that line. */
+    private static void shortMethods(String code) {
+        Matcher m = Pattern.compile("(?m)^( +)[\\w\\[\\] ]+\\([^;)]*\\) \\{\n(?s:.*?)\n\\1\\}$").matcher(code);
+        int found = 0;
+        while (m.find()) {
+            found++;
+            CHECK.holds("some sixty lines at most: " + m.group().strip(), m.group().lines().count() <= 60);
+        }
+        CHECK.holds("methods are found in the text", found > FACE.size());
+    }
+
+    /** Rule 12 and the room of a run: what a run makes is what its constructors make, however many calls it has. */
+    private static void nothingMadeLater(String code) {
+        String rest = code.replaceAll("(?s)    public SettleLayers\\(\\) \\{.*?\n    \\}\n", "")
+            .replaceAll("(?m)^        final \\w+\\[\\] \\w+ = new \\w+\\[[\\w +]+\\];$", "");
+        CHECK.holds("nothing is made but by constructors", !Pattern.compile("\\bnew\\b").matcher(rest).find());
     }
 }
